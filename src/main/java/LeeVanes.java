@@ -197,25 +197,11 @@ public final class LeeVanes {
     }
 
     public int best(int w) {
-        if (w < -1) {
-            return UNKNOWN;
-        }
-        if (!present.stands) {
-            return STATE;
-        }
-        int setting = present.bestSetting();
-        return w == -1 ? present.burdenBy(setting) : vaneOrNone(setting, w);
+        return leastBy(w, false);
     }
 
     public int calm(int w) {
-        if (w < -1) {
-            return UNKNOWN;
-        }
-        if (!present.stands) {
-            return STATE;
-        }
-        int setting = present.calmSetting();
-        return w == -1 ? present.mostMindedBy(setting) : vaneOrNone(setting, w);
+        return leastBy(w, true);
     }
 
     public int bribe(int w, int v) {
@@ -477,6 +463,20 @@ public final class LeeVanes {
     private int fail(int found) {
         lastFault = found;
         return -10 - found;
+    }
+
+    private int leastBy(int w, boolean isCalm) {
+        if (w < -1) {
+            return UNKNOWN;
+        }
+        if (!present.stands) {
+            return STATE;
+        }
+        int choice = present.leastSetting(isCalm);
+        if (w == -1) {
+            return isCalm ? present.mostMindedBy(choice) : present.burdenBy(choice);
+        }
+        return vaneOrNone(choice, w);
     }
 
     private int vaneOrNone(int setting, int w) {
@@ -855,26 +855,14 @@ public final class LeeVanes {
             return now;
         }
 
-        int bestSetting() {
+        /** Of all settings the one by which the most that one ward minds (calm) or else the burden is the least. */
+        int leastSetting(boolean isCalm) {
             int choice = 0;
             int least = FAR_OFF;
             for (int s = 0; s < settingsInAll(); s++) {
-                int sum = burdenBy(s);
-                if (sum < least) {
-                    least = sum;
-                    choice = s;
-                }
-            }
-            return choice;
-        }
-
-        int calmSetting() {
-            int choice = 0;
-            int least = FAR_OFF;
-            for (int s = 0; s < settingsInAll(); s++) {
-                int most = mostMindedBy(s);
-                if (most < least) {
-                    least = most;
+                int cost = isCalm ? mostMindedBy(s) : burdenBy(s);
+                if (cost < least) {
+                    least = cost;
                     choice = s;
                 }
             }
