@@ -167,51 +167,6 @@ public final class AgainstModelTest {
             return;
         }
         calls++;
-        checks.due("run " + run + ", call " + calls + ": " + name + Arrays.toString(a), ask(name, a), model.ask(name, a));
-    }
-
-    private long ask(String name, int[] a) {
-        switch (name) {
-            case "town": return x.town(a[0], a[1], a[2], a[3]);
-            case "ofWard": return x.ofWard(a[0], a[1]);
-            case "ofWork": return x.ofWork(a[0], a[1]);
-            case "law": return x.law(a[0]);
-            case "turn": return x.turn(a[0], a[1]);
-            case "smell": return x.smell(a[0]);
-            case "minds": return x.minds(a[0]);
-            case "burden": return x.burden();
-            case "told": return x.told(a[0], a[1], a[2], a[3]);
-            case "vote": return x.vote(a[0], a[1]);
-            case "ballot": return x.ballot(a[0]);
-            case "year": return x.year();
-            case "round": return x.round(a[0]);
-            case "best": return x.best(a[0]);
-            case "calm": return x.calm(a[0]);
-            case "bribe": return x.bribe(a[0], a[1]);
-            default: return askMore(name, a);
-        }
-    }
-
-    private long askMore(String name, int[] a) {
-        switch (name) {
-            case "reading": return x.reading(a[0], a[1]);
-            case "back": return x.back(a[0]);
-            case "settings": return x.settings(a[0]);
-            case "laws": return x.laws();
-            case "powers": return x.powers(a[0]);
-            case "odds": return x.odds(a[0], a[1], a[2]);
-            case "sheet": return x.sheet(a[0], a[1], a[2]);
-            case "lose": return x.lose(a[0]);
-            case "put": return x.put(a[0], a[1], a[2]);
-            case "cell": return x.cell(a[0], a[1], a[2]);
-            case "copy": return x.copy(a[0], a[1], a[2], a[3], a[4]);
-            case "tell": return x.tell(a[0]);
-            case "woo": return x.woo(a[0]);
-            case "as": return x.as(a[0], a[1]);
-            case "trace": return x.trace();
-            case "fault": return x.fault();
-            case "many": return x.many(a[0]);
-            default: throw new IllegalArgumentException(name);
-        }
+        checks.due("run " + run + ", call " + calls + ": " + name + Arrays.toString(a), Calls.ask(x, name, a), model.ask(name, a));
     }
 }
