@@ -37,6 +37,8 @@ public final class AgainstModelTest {
     private void step() {
         if (chance(1) && calls < 400) {
             layText();
+        } else if (chance(1)) {
+            layCopy();
         } else if (chance(3)) {
             layVanes();
         } else if (chance(8)) {
@@ -124,6 +126,21 @@ public final class AgainstModelTest {
         }
         compare("told", sheet, lane, below(2), n);
         compare("fault");
+    }
+
+    private void layCopy() {
+        int from = below(4);
+        int to = chance(60) ? from : below(4);
+        int lane = below(3);
+        compare("sheet", to, lane, 8);
+        compare("sheet", from, lane, 8);
+        for (int i = 0; i < 8; i++) {
+            compare("put", from, i, below(100));
+        }
+        compare("copy", from, below(4), to, below(4), below(6));
+        for (int i = 0; i < 8; i++) {
+            compare("cell", to, i, lane);
+        }
     }
 
     private void truthfulReading() {

@@ -42,6 +42,14 @@ final class ReadAlong {
         ahead = heading + ": ";
     }
 
+    /** Goes on behind these words; what is ahead of them another test reads. */
+    void passTo(String words) {
+        int found = part.indexOf(words, at);
+        checks.about("the document");
+        checks.due("does it go on to: " + words, found < 0 ? 0 : 1, 1);
+        at = found < 0 ? at : found + words.length();
+    }
+
     /** Words that name no boundary. */
     void plain(String words) {
         checks.about("the document");

@@ -8,12 +8,11 @@ public final class TermsBySentenceTest {
     private static final String NO_WORKS = "t12;w1.";
 
     public static void main(String[] args) {
-        ReadAlong use = new ReadAlong("An object is used", "## The public face");
-        use.edge("An object is used for at most 512 calls after it has been made; what later calls answer is free.",
+        ReadAlong doc = new ReadAlong("An object is used", "## Promise 1:");
+        doc.edge("An object is used for at most 512 calls after it has been made; what later calls answer is free.",
             TermsBySentenceTest::lastCall);
-        use.end();
-        ReadAlong doc = new ReadAlong("## Terms", "## Promise 1:");
-        doc.plain("## Terms");
+        // The public face is FaceTest's.
+        doc.passTo("## Terms");
         refusals(doc);
         faults(doc);
         shapes(doc);
@@ -508,11 +507,19 @@ public final class TermsBySentenceTest {
             c.run(x, "cell(0, 0, 0) 1; cell(0, 1, 0) 2; cell(0, 2, 0) 4; cell(1, 0, 1) 5; cell(2, 0, 0) LOST; fault() 1; "
                 + "cell(3, 0, 0) 116; cell(3, 15, 0) 49");
         });
-        doc.edge("the LAW is 0,", c -> c.runEach(SMALL, "law(?) 0; town(3, 0, 0, 15) -115; many(3) ?; town(3, 0, 0, 16) 3; "
-            + "many(3) 0; law(0) 0", "1", "2"));
-        doc.edge("all VANES are 0,", c -> c.runEach("t15;x1x2x3x4.", "turn(0, ?) 0; turn(1, ?) 0; turn(2, ?) 0; turn(3, ?) 0; "
-            + "town(3, 0, 0, 12) -112; ofWork(0, 2) ?; ofWork(3, 2) ?; town(3, 0, 0, 13) 0; ofWork(0, 2) 0; ofWork(1, 2) 0; "
-            + "ofWork(2, 2) 0; ofWork(3, 2) 0", "1", "2", "3"));
+        doc.edge("the LAW is 0,", c -> {
+            c.runEach(SMALL, "law(?) 0; town(3, 0, 0, 15) -115; many(3) ?; town(3, 0, 0, 16) 3; many(3) 0; law(0) 0", "1", "2");
+            c.runEach(SMALL, "law(?) 0; town(3, 0, 0, 16) 3; town(3, 0, 0, 16) 3; many(3) 0; law(?) 0; town(3, 0, 0, 16) 3; "
+                + "law(?) 0; town(3, 0, 0, 16) 3; many(3) 0; town(3, 0, 0, 16) 3; many(3) 0", "1", "2");
+        });
+        doc.edge("all VANES are 0,", c -> {
+            c.runEach("t15;x1x2x3x4.", "turn(0, ?) 0; turn(1, ?) 0; turn(2, ?) 0; turn(3, ?) 0; town(3, 0, 0, 12) -112; "
+                + "ofWork(0, 2) ?; ofWork(3, 2) ?; town(3, 0, 0, 13) 0; ofWork(0, 2) 0; ofWork(1, 2) 0; ofWork(2, 2) 0; "
+                + "ofWork(3, 2) 0", "1", "2", "3");
+            c.runEach(SMALL, "turn(0, ?) 0; turn(1, ?) 0; town(3, 0, 0, 16) 3; town(3, 0, 0, 16) 3; ofWork(0, 2) 0; "
+                + "turn(1, ?) 0; town(3, 0, 0, 16) 3; turn(0, ?) 0; town(3, 0, 0, 16) 3; ofWork(0, 2) 0; ofWork(1, 2) 0; "
+                + "town(3, 0, 0, 16) 3; ofWork(0, 2) 0; ofWork(1, 2) 0", "1", "2", "3");
+        });
         doc.edge("no READINGS.", c -> {
             LeeVanes x = Checks.townOf(SMALL);
             for (int k = 0; k < 8; k++) {
@@ -520,7 +527,8 @@ public final class TermsBySentenceTest {
             }
             c.run(x, "town(3, 0, 0, 15) -115; many(4) 8; settings(-1) 0; town(3, 0, 0, 16) 3; many(4) 0; settings(-1) 16; "
                 + "laws() 7; back(1) OUTSIDE");
-            c.run(x, "reading(0, 4) 0; laws() 1");
+            c.run(x, "reading(0, 4) 0; laws() 1; town(3, 0, 0, 16) 3; many(4) 0; laws() 7; town(3, 0, 0, 16) 3; many(4) 0; "
+                + "laws() 7");
         });
     }
 
