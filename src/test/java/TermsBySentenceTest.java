@@ -301,6 +301,11 @@ public final class TermsBySentenceTest {
             c.run(Checks.townBy("t12;x2x3", 2), "odds(0, 1, 0) 3; odds(0, 1, 1) 4");
             c.run(Checks.townOf("t12;w1."), "odds(1, 0, 0) 1; odds(1, 0, 1) 1; odds(1, 1, 0) 0; odds(1, 1, 1) 1");
             c.run(Checks.townOf("t15;x9x9x9x9."), "odds(4, 26, 0) 1; odds(4, 26, 1) 256; odds(4, 1, 0) 175; odds(4, 1, 1) 256");
+            // All 256 of 256, none of them, and a quarter by one way of the last work.
+            c.run(Checks.townOf("t15;x9x9x9x9."), "odds(4, 0, 0) 1; odds(4, 0, 1) 1; odds(0, 9, 0) 1; odds(0, 9, 1) 1; "
+                + "odds(4, 27, 0) 0; odds(4, 27, 1) 1");
+            c.run(Checks.townOf("t15;x1x1x1x9."), "odds(4, 8, 0) 1; odds(4, 8, 1) 4; odds(2, 1, 0) 1; odds(2, 1, 1) 1; "
+                + "odds(2, 9, 0) 1; odds(2, 9, 1) 4");
         });
     }
 
@@ -547,6 +552,28 @@ public final class TermsBySentenceTest {
         c.due("a larger town", Checks.take(x, "t23;x1x2x3;w1r2f3"), 3);
         c.run(x, "many(0) 6; many(1) 3; many(2) 3; smell(0) 1; smell(1) 2; smell(2) 3; smell(3) 0; ofWard(2, 3) 8; "
             + "settings(-1) 64");
+        noneLeft(c);
+    }
+
+    /** Of what earlier towns had nothing is left in one that has less. */
+    private static void noneLeft(Checks c) {
+        LeeVanes x = new LeeVanes();
+        for (int taken = 0; taken < 2; taken++) {
+            c.due("a full town", Checks.take(x, "t26;x9f9f9f9f9f9;x9x9x9f9.."), 6);
+            c.run(x, "turn(0, 1) 0; turn(1, 1) 0; turn(2, 1) 0; turn(3, 1) 0; reading(0, 1) 0; law(2) 0");
+        }
+        for (int taken = 0; taken < 2; taken++) {
+            c.due("a town with less", Checks.take(x, "t16;x9w1...."), 1);
+            c.run(x, "turn(0, 1) 0; burden() 8; minds(0) 8; smell(1) 8; smell(2) 7; smell(5) 4; settings(-1) 4; best(-1) 0; "
+                + "best(0) 0; calm(0) 0; vote(0, 0) 0; ballot(0) 0; bribe(0, 0) 0; bribe(0, 1) 1; round(0) 1; laws() 7; "
+                + "odds(2, 7, 1) 4");
+            c.due("another one", Checks.take(x, "t33;.w1.;w1x2w1;.w1."), 4);
+            c.run(x, "best(-1) 1; calm(-1) 1; burden() 1; ballot(0) 0");
+        }
+        for (int taken = 0; taken < 2; taken++) {
+            c.due("a work where a ward was", Checks.take(x, "t12;.x5"), 0);
+            c.run(x, "smell(1) 5; burden() 0; best(-1) 0; calm(-1) 0; ballot(0) 0; bribe(0, 1) NONE");
+        }
     }
 
     // ---- 2 smells
