@@ -6,11 +6,13 @@ import java.lang.reflect.Modifier;
 import java.nio.file.Files;
 import java.nio.file.Path;
 import java.util.ArrayList;
+import java.util.Arrays;
 import java.util.List;
 import java.util.Set;
 import java.util.TreeSet;
 import java.util.regex.Matcher;
 import java.util.regex.Pattern;
+import java.util.stream.Collectors;
 
 /** The face is the document's and nothing more; the source uses none of the words that LANGUAGE.md leaves out. */
 public final class FaceTest {
@@ -36,14 +38,16 @@ public final class FaceTest {
         Set<String> want = new TreeSet<>();
         Matcher line = Pattern.compile("(?m)^ {4}public (int|long) (\\w+)\\(([^)]*)\\);$").matcher(doc);
         while (line.find()) {
-            int parameters = line.group(3).isEmpty() ? 0 : line.group(3).split(",").length;
-            want.add(line.group(1) + " " + line.group(2) + " " + parameters);
+            String types = line.group(3).replaceAll("(int|long) \\w+", "$1");
+            want.add(line.group(1) + " " + line.group(2) + "(" + types + ")");
         }
         Set<String> got = new TreeSet<>();
         Set<String> publicNames = new TreeSet<>();
         for (Method m : LeeVanes.class.getDeclaredMethods()) {
             if (!Modifier.isPrivate(m.getModifiers())) {
-                got.add(m.getReturnType() + " " + m.getName() + " " + m.getParameterCount());
+                String types = Arrays.stream(m.getParameterTypes()).map(Class::toString).collect(Collectors.joining(", "));
+                got.add(m.getReturnType() + " " + m.getName() + "(" + types + ")");
+                due(!Modifier.isStatic(m.getModifiers()), m + " is static");
                 publicNames.add(m.getName());
                 due(Modifier.isPublic(m.getModifiers()), m + " is neither public nor private");
             }
